@@ -8,6 +8,7 @@ public final class CutAndStartTest {
         cutLosesMemory();
         cutRefuses();
         startWhenUp();
+        startReadsRowsNeverWritten();
         startLeavesWhatIsBehind();
         wrongFirstThatHolds();
         wrongAtTheDisksEnd();
@@ -147,6 +148,35 @@ public final class CutAndStartTest {
         check.due("start once more", log.start(), 2);
         check.due("its bytes", log.row(1, 10), 11);
         check.due("rows of a kind lost by it", log.find(3, 0), -1);
+    }
+
+    /** Rows that came onto the disk byte by byte, so that nothing but the disk can tell them. */
+    private static void startReadsRowsNeverWritten() {
+        StockLog log = new StockLog(64);
+        int place = 0;
+        for (int number = 1; number <= 60; number++) {
+            int[] bytes = new int[(number + 19) % 21];
+            for (int i = 0; i < bytes.length; i++) {
+                bytes[i] = 255 - number - i;
+            }
+            place = Check.forge(log, place, 1 + number % 4, number, bytes);
+        }
+        check.due("start", log.start(), 60);
+        check.due("bytes of rows", log.count(6), place);
+        for (int number = 1; number <= 60; number++) {
+            check.due("kind of " + number, log.row(number, 0), 1 + number % 4);
+            check.due("length of " + number, log.row(number, 1), (number + 19) % 21);
+            for (int i = 0; i < (number + 19) % 21; i++) {
+                check.due("row " + number + " byte " + i, log.row(number, 10 + i), 255 - number - i);
+            }
+        }
+        StockLog most = new StockLog(64);
+        for (int number = 1; number <= 227; number++) {
+            Check.forge(most, 9 * number - 9, 4, number);
+        }
+        check.due("as many rows as a disk can have", most.start(), 227);
+        check.due("the last of them", most.find(4, 226), 227);
+        check.refused("no room behind them", Check.UNSUPPORTED, () -> most.end(1));
     }
 
     private static void startLeavesWhatIsBehind() {
