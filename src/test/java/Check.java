@@ -6,28 +6,72 @@ final class Check {
         int answer();
     }
 
+    interface Made {
+        StockLog make();
+    }
+
+    interface Asked {
+        int of(StockLog log);
+    }
+
     static final String ILLEGAL_ARGUMENT = IllegalArgumentException.class.getName();
     static final String ILLEGAL_STATE = IllegalStateException.class.getName();
     static final String UNSUPPORTED = UnsupportedOperationException.class.getName();
     static final String NO_SUCH_ELEMENT = NoSuchElementException.class.getName();
     static final String NO_SUCH_INDEX = ArrayIndexOutOfBoundsException.class.getName();
 
-    private int calls = 0;
+    private final String name;
+    private int answers = 0;
     private int wrong = 0;
+
+    Check(String name) {
+        this.name = name;
+    }
 
     void due(String call, int got, int want) {
         same(call, Integer.toString(got), Integer.toString(want));
+    }
+
+    void same(String call, String got, String want) {
+        answers++;
+        if (!got.equals(want)) {
+            wrong++;
+            System.out.println(name + ": " + call + " answered " + got + ", due is " + want);
+        }
+    }
+
+    void counts(String when, StockLog log, int... due) {
+        for (int what = 0; what < due.length; what++) {
+            due("count(" + what + ") " + when, log.count(what), due[what]);
+        }
+    }
+
+    void row(StockLog log, int number, int kind, int... bytes) {
+        due("kind of row " + number, log.row(number, 0), kind);
+        due("length of row " + number, log.row(number, 1), bytes.length);
+        for (int i = 0; i < bytes.length; i++) {
+            due("byte " + i + " of row " + number, log.row(number, 10 + i), bytes[i]);
+        }
+    }
+
+    void bytes(StockLog log, int place, int... due) {
+        for (int i = 0; i < due.length; i++) {
+            due("byte " + (place + i) + " of the disk", Disk.at(log, place + i), due[i]);
+        }
     }
 
     void refused(String call, String exception, Call made) {
         same(call, outcome(made), exception);
     }
 
-    void same(String call, String got, String want) {
-        calls++;
-        if (!got.equals(want)) {
-            wrong++;
-            System.out.println(call + " answered " + got + ", due is " + want);
+    /** Refused by that exception; and then the object can't be told from one on which the call was not made. */
+    void refused(String call, String exception, Made made, Asked asked) {
+        StockLog first = made.make();
+        refused(call, exception, () -> asked.of(first));
+        for (Afterwards afterwards : Afterwards.values()) {
+            StockLog called = made.make();
+            outcome(() -> asked.of(called));
+            same(call + ", then " + afterwards, afterwards.seen(called), afterwards.seen(made.make()));
         }
     }
 
@@ -40,89 +84,18 @@ final class Check {
         }
     }
 
-    void exit(String test) {
-        System.out.println(test + ": " + calls + " answers, " + wrong + " not as due");
-        if (wrong != 0 || calls == 0) {
+    boolean hasAsked() {
+        return answers != 0;
+    }
+
+    boolean isAsDue() {
+        return wrong == 0;
+    }
+
+    void exit() {
+        System.out.println(name + ": " + answers + " answers, " + wrong + " not as due");
+        if (wrong != 0 || answers == 0) {
             System.exit(1);
         }
-    }
-
-    /** Tells the bytes and ends the row: its number. */
-    static int tell(StockLog log, int kind, int... bytes) {
-        for (int b : bytes) {
-            log.add(b);
-        }
-        return log.end(kind);
-    }
-
-    /** All of an object that can be asked for, so that a refused call can be shown to have changed nothing. */
-    static String all(StockLog log) {
-        StringBuilder text = new StringBuilder();
-        for (int what = 0; what <= 7; what++) {
-            text.append(log.count(what)).append(' ');
-        }
-        text.append("wrong ").append(log.wrong()).append(" rows");
-        for (int number = 1; number <= log.count(1); number++) {
-            text.append(" [");
-            for (int what = 0; what <= 2; what++) {
-                text.append(log.row(number, what)).append(' ');
-            }
-            for (int i = 0; i < log.row(number, 1); i++) {
-                text.append(log.row(number, 10 + i)).append(' ');
-            }
-            text.append(']');
-        }
-        return text.append(" disk").append(disk(log)).toString();
-    }
-
-    static String disk(StockLog log) {
-        StringBuilder text = new StringBuilder();
-        for (int sector = 0; sector < log.count(0); sector++) {
-            for (int i = 0; i < 32; i++) {
-                text.append(' ').append(log.byteOf(sector, i));
-            }
-        }
-        return text.toString();
-    }
-
-    static int place(StockLog log, int place) {
-        return log.byteOf(place / 32, place % 32);
-    }
-
-    /** Makes a byte of the disk what it is to be, by a poke if it is another one. */
-    static void force(StockLog log, int place, int b) {
-        int mask = place(log, place) ^ b;
-        if (mask != 0) {
-            log.poke(place / 32, place % 32, mask);
-        }
-    }
-
-    /** Puts a row on the disk as the document words it, with the sum worked out in longs apart from the class. */
-    static int forge(StockLog log, int place, int kind, int number, int... bytes) {
-        int[] row = new int[9 + bytes.length];
-        row[0] = 90;
-        row[1] = kind;
-        row[2] = number / 256;
-        row[3] = number % 256;
-        row[4] = bytes.length;
-        System.arraycopy(bytes, 0, row, 5, bytes.length);
-        long sum = sum(row, 1, 5 + bytes.length);
-        for (int i = 0; i < 4; i++) {
-            row[5 + bytes.length + i] = (int) (sum >> (24 - 8 * i)) & 255;
-        }
-        for (int i = 0; i < row.length; i++) {
-            force(log, place + i, row[i]);
-        }
-        return place + row.length;
-    }
-
-    static long sum(int[] bytes, int first, int behind) {
-        long s = 1;
-        for (int i = first; i < behind; i++) {
-            s ^= bytes[i];
-            s = (s * 128 + s / 33554432) % 4294967296L;
-            s = (s * 0x85EBCA77L) & 0xFFFFFFFFL;
-        }
-        return s;
     }
 }

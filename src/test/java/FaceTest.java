@@ -8,7 +8,7 @@ import java.util.TreeSet;
 
 /** The public face as the document writes it, and no other member that another class could see. */
 public final class FaceTest {
-    private static final Check check = new Check();
+    private static final Check check = new Check("FaceTest");
     private static final String NUMBER = "IllegalArgumentException";
     private static final String STATE = "IllegalStateException";
     private static final String ROOM = "UnsupportedOperationException";
@@ -40,7 +40,7 @@ public final class FaceTest {
         for (Field field : StockLog.class.getDeclaredFields()) {
             check.due(field.getName() + " is private", field.getModifiers() & Modifier.PRIVATE, Modifier.PRIVATE);
         }
-        check.exit("FaceTest");
+        check.exit();
     }
 
     private static String method(String answer, String name, int numbers, String... thrown) {

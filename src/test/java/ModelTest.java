@@ -8,7 +8,7 @@ public final class ModelTest {
         31, 32, 63, 64, 255, 256, 65536, 134217728, Integer.MAX_VALUE - 1, Integer.MAX_VALUE};
     private static final int[] SECTORS = {1, 1, 2, 2, 3, 4, 8, 64, 0, 70};
 
-    private static final Check check = new Check();
+    private static final Check check = new Check("ModelTest");
     private static Random random;
     private static StockLog log;
     private static PlainModel model;
@@ -23,7 +23,7 @@ public final class ModelTest {
                 oneCall("run " + run + " call " + call + " ");
             }
         }
-        check.exit("ModelTest");
+        check.exit();
     }
 
     private static void both(String call, Check.Call ofLog, Check.Call ofModel) {

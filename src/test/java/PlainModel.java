@@ -39,7 +39,7 @@ final class PlainModel {
         List<Integer> row = new ArrayList<>(List.of(kind, number / 256, number % 256, bytes.size()));
         row.addAll(bytes);
         int[] summed = row.stream().mapToInt(Integer::intValue).toArray();
-        long sum = Check.sum(summed, 0, summed.length);
+        long sum = Disk.sum(summed, 0, summed.length);
         for (long part = 1L << 24; part > 0; part /= 256) {
             row.add((int) (sum / part % 256));
         }
