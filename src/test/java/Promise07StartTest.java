@@ -86,17 +86,18 @@ public final class Promise07StartTest {
 
     @Says("A START reads rows from byte 0 on as long as the next one is whole")
     static void rowsNeverWrittenAreRead(Check check) {
+        int[] twenty = {1, 2, 3, 4, 5, 6, 7, 8, 9, 10, 11, 12, 13, 14, 15, 16, 17, 18, 19, 20};
         StockLog log = new StockLog(3);
-        int place = Disk.forge(log, 0, 4, 1, 255, 0, 128);
+        int place = Disk.forge(log, 0, 1, 1, twenty);
         place = Disk.forge(log, place, 2, 2);
-        place = Disk.forge(log, place, 5, 3, 0, 0, 0, 1, 0, 0, 0, 1);
-        place = Disk.forge(log, place, 1, 4, 1, 2, 3, 4, 5, 6, 7, 8, 9, 10, 11, 12, 13, 14, 15, 16, 17, 18, 19, 20);
+        place = Disk.forge(log, place, 5, 3, 0, 1, 0, 1, 0, 0, 0, 0);
+        Disk.forge(log, place, 4, 4, 255, 0, 128);
         check.due("no row before a start", log.count(1), 0);
         check.due("start", log.start(), 4);
-        check.row(log, 1, 4, 255, 0, 128);
+        check.row(log, 1, 1, twenty);
         check.row(log, 2, 2);
-        check.row(log, 3, 5, 0, 0, 0, 1, 0, 0, 0, 1);
-        check.row(log, 4, 1, 1, 2, 3, 4, 5, 6, 7, 8, 9, 10, 11, 12, 13, 14, 15, 16, 17, 18, 19, 20);
+        check.row(log, 3, 5, 0, 1, 0, 1, 0, 0, 0, 0);
+        check.row(log, 4, 4, 255, 0, 128);
         check.counts("behind it", log, 3, 4, 4, 0, 0, 1, 67, 1);
         check.due("the next row", log.end(1), 5);
     }
@@ -114,10 +115,11 @@ public final class Promise07StartTest {
 
     @Says("A START reads rows from byte 0 on as long as the next one is whole")
     static void alteredRowsAreAsTheDiskTellsThem(Check check) {
-        StockLog log = Scenes.left(21);
-        Disk.forge(log, 0, 3, 1, 50, 60);
-        check.row(log, 1, 1, 0, 0);
+        int[] other = {50, 51, 52, 53, 54, 55, 56, 57, 58, 59, 60, 61, 62, 63, 64, 65, 66, 67, 68, 69};
+        StockLog log = Scenes.left(3);
+        Disk.forge(log, 0, 3, 1, other);
+        check.row(log, 1, 1, new int[20]);
         check.due("start", log.start(), 1);
-        check.row(log, 1, 3, 50, 60);
+        check.row(log, 1, 3, other);
     }
 }
