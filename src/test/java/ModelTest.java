@@ -2,28 +2,51 @@ import java.util.Random;
 
 /** All promises at once: long runs of calls, the same at each time, against the plain model. */
 public final class ModelTest {
+    /** What a run makes most of: without the second one no large disk would fill, without the third few would break. */
+    private enum Bent { NONE, WRITING, ALTERING }
+
     private static final int RUNS = 1500;
     private static final int CALLS = 512;
+    private static final int LAST_LOOKS = 60;
     private static final int[] EXTREMES = {Integer.MIN_VALUE, Integer.MIN_VALUE + 1, -257, -1, 0, 1, 2, 5, 6, 20, 21,
         31, 32, 63, 64, 255, 256, 65536, 134217728, Integer.MAX_VALUE - 1, Integer.MAX_VALUE};
-    private static final int[] SECTORS = {1, 1, 2, 2, 3, 4, 8, 64, 0, 70};
+    private static final int[] SECTORS = {1, 1, 2, 2, 3, 4, 8, 16, 24, 64, 0, 70};
 
     private static final Check check = new Check("ModelTest");
+    private static final Bent[] BENTS = Bent.values();
     private static Random random;
+    private static Bent bent;
     private static StockLog log;
     private static PlainModel model;
 
     public static void main(String[] args) {
         for (int run = 0; run < RUNS; run++) {
             random = new Random(run);
+            bent = BENTS[run / SECTORS.length % BENTS.length];
             int sectors = SECTORS[run % SECTORS.length];
             log = new StockLog(sectors);
             model = new PlainModel(sectors);
-            for (int call = 0; call < CALLS; call++) {
+            for (int call = 1; call <= CALLS - LAST_LOOKS; call++) {
                 oneCall("run " + run + " call " + call + " ");
             }
+            lastLooks("run " + run + " at its end ");
         }
         check.exit();
+    }
+
+    /** The last calls of a run ask for what wrong answers before them may have left unseen. */
+    private static void lastLooks(String run) {
+        both(run + "wrong", log::wrong, model::wrong);
+        for (int asked = 0; asked < 8; asked++) {
+            int what = asked;
+            both(run + "count " + what, () -> log.count(what), () -> model.count(what));
+        }
+        int size = 32 * model.count(0);
+        int first = Math.max(0, model.count(6) - 30);
+        for (int looks = 9; looks < LAST_LOOKS; looks++) {
+            int place = (first + looks) % size;
+            both(run + "byte " + place, () -> Disk.at(log, place), () -> model.byteOf(place / 32, place % 32));
+        }
     }
 
     private static void both(String call, Check.Call ofLog, Check.Call ofModel) {
@@ -37,8 +60,19 @@ public final class ModelTest {
         return least + random.nextInt(most - least + 1);
     }
 
-    private static void oneCall(String run) {
+    private static int choice() {
         int choice = random.nextInt(100);
+        if (bent == Bent.WRITING && choice >= 50 && choice < 65) {
+            return random.nextInt(20) == 0 ? choice : random.nextInt(50);
+        }
+        if (bent == Bent.ALTERING && choice >= 65 && random.nextBoolean()) {
+            return 50 + random.nextInt(15);
+        }
+        return choice;
+    }
+
+    private static void oneCall(String run) {
+        int choice = choice();
         if (choice < 50) {
             writing(run, choice);
         } else if (choice < 65) {

@@ -45,7 +45,7 @@ public final class Promise13BackupTest {
         check.due("the last byte", log.byteOf(63, 31), 77);
     }
 
-    @Says("the disk's bytes as they are now are kept beside")
+    @Says("A backup: the disk's bytes as they are now are kept beside")
     static void bytesAlteredLaterAreNotKept(Check check) {
         StockLog log = Scenes.busy();
         String disk = Disk.text(log);

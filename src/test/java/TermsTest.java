@@ -1,23 +1,11 @@
 import java.util.Arrays;
 
-/** The document's Terms, and how long an object is used: a case for each sentence's edges. */
+/** The document's Terms: a case for each sentence's edges. */
 public final class TermsTest {
     private static final int[] TWENTY = {1, 2, 3, 4, 5, 6, 7, 8, 9, 10, 11, 12, 13, 14, 15, 16, 17, 18, 19, 20};
 
     public static void main(String[] args) {
         Cases.run(TermsTest.class);
-    }
-
-    @Says("An object is used for at most 512 calls after it has been made")
-    static void call512IsStillAnswered(Check check) {
-        StockLog log = new StockLog(64);
-        for (int number = 1; number <= 170; number++) {
-            check.due("add", log.add(number), 1);
-            check.due("end", log.end(1 + number % 4), number);
-            check.due("sync", log.sync(), 1);
-        }
-        check.due("call 511", log.row(170, 10), 170);
-        check.due("call 512", log.count(6), 1700);
     }
 
     // DISK, SECTORS
