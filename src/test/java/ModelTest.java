@@ -2,7 +2,7 @@ import java.util.Random;
 
 /** All promises at once: long runs of calls, the same at each time, against the plain model. */
 public final class ModelTest {
-    /** What a run makes most of: without the second one no large disk would fill, without the third few would break. */
+    /** What a run makes most of: without the second one only small disks would fill, without the third few would break. */
     private enum Bent { NONE, WRITING, ALTERING }
 
     private static final int RUNS = 1500;
